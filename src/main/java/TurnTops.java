@@ -362,7 +362,9 @@ public final class TurnTops {
                 fillTurned(order);
             }
             for (int rank = 0; rank < joined.length; rank++) {
-                joined[rank] = joinedPlaces(rank);
+                for (int place = 0; place < cakes; place++) {
+                    joined[rank] |= findJoined(rank, place) ? 1 << place : 0;
+                }
             }
         }
 
@@ -419,26 +421,16 @@ public final class TurnTops {
             return behind;
         }
 
-        private int joinedPlaces(int rank) {
-            int set = 0;
-            for (int place = 0; place < cakes - 1; place++) {
-                if (areNeighborsJoined(rank, place)) {
-                    set |= 1 << place;
-                }
+        private boolean findJoined(int rank, int place) {
+            int upper = sizeAt(rank, place);
+            boolean burnt = isBurnt(rank, place);
+            if (place == cakes - 1) {
+                return upper == cakes && !burnt;
             }
-            int bottom = cakes - 1;
-            if (sizeAt(rank, bottom) == cakes && !isBurnt(rank, bottom)) {
-                set |= 1 << bottom;
-            }
-            return set;
-        }
-
-        private boolean areNeighborsJoined(int rank, int place) {
-            int rise = sizeAt(rank, place + 1) - sizeAt(rank, place);
+            int rise = sizeAt(rank, place + 1) - upper;
             if (sideBits == 0) {
                 return rise == 1 || rise == -1;
             }
-            boolean burnt = isBurnt(rank, place);
             return burnt == isBurnt(rank, place + 1) && rise == (burnt ? -1 : 1);
         }
 
