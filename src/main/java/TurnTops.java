@@ -181,7 +181,7 @@ public final class TurnTops {
         if (shape == null || turns < 0 || turns > MOST_LOOKED_TURNS) {
             return INVALID_ARGUMENT;
         }
-        return shape.solver().searchedRows(now.rankOf(stack), NONE, turns);
+        return shape.solver().searchedRows(now.rankOf(stack), turns);
     }
 
     public int simple(int stack, int what) {
@@ -335,7 +335,6 @@ public final class TurnTops {
         private final int allSides;
         /** The codes of the orders, rising. */
         private final int[] codes;
-        private int codesFilled = 0;
         /** For each order the sizes from the top to the bottom. */
         private final int[] sizes;
         /** For each rank the ranks behind the turns of 1, 2, .. cakes. */
@@ -356,7 +355,7 @@ public final class TurnTops {
             sizes = newRow(orders * cakes);
             turned = newRow(ranks * cakes);
             joined = newRow(ranks);
-            fillCodes(0, 0, 0);
+            fillCodes(codes, 0, cakes, 0, 0, 0);
             for (int order = 0; order < codes.length; order++) {
                 fillSizes(order);
                 fillTurned(order);
@@ -368,18 +367,22 @@ public final class TurnTops {
             }
         }
 
-        /** Fills in all codes that begin with some sizes (used, as a set); the depth is at most the cakes. */
-        private void fillCodes(int begin, int used, int depth) {
+        /**
+         * Fills in, from an index on, all codes that begin with some sizes (used, as a set); returns the index behind
+         * them. The depth is at most the cakes.
+         */
+        private static int fillCodes(int[] codes, int index, int cakes, int begin, int used, int depth) {
             if (depth >= cakes) {
-                put(codes, codesFilled, begin);
-                codesFilled++;
-                return;
+                put(codes, index, begin);
+                return index + 1;
             }
+            int next = index;
             for (int size = 1; size <= cakes; size++) {
                 if ((used & (1 << size)) == 0) {
-                    fillCodes(begin * 10 + size, used | (1 << size), depth + 1);
+                    next = fillCodes(codes, next, cakes, begin * 10 + size, used | (1 << size), depth + 1);
                 }
             }
+            return next;
         }
 
         private void fillSizes(int order) {
@@ -694,10 +697,15 @@ public final class TurnTops {
             return greatest;
         }
 
-        /** How many rows of just so many turns sort a stack; the depth is the turns that are left. */
-        int sortingRows(int rank, int left) {
+        /** How many rows of just so many turns sort a stack. */
+        int sortingRows(int rank, int turns) {
+            return countSorting(shape, rank, turns);
+        }
+
+        /** The depth is the turns that are left. */
+        private static int countSorting(Shape shape, int rank, int left) {
             // A turn takes away one gap at most, so a stack with more gaps than turns left isn't sorted in time.
-            if (layouts.gaps(rank) > left) {
+            if (shape.layouts.gaps(rank) > left) {
                 return 0;
             }
             if (left <= 0) {
@@ -706,15 +714,20 @@ public final class TurnTops {
             int rows = 0;
             for (int many = 1; many <= shape.cakes; many++) {
                 if (shape.allows(rank, many)) {
-                    rows += sortingRows(layouts.behind(rank, many), left - 1);
+                    rows += countSorting(shape, shape.layouts.behind(rank, many), left - 1);
                 }
             }
             return rows;
         }
 
-        /** How many rows the search that is cut off by gaps looks at; the depth is the turns that are left. */
-        int searchedRows(int rank, int last, int left) {
-            if (layouts.gaps(rank) > left) {
+        /** How many rows of so many turns at most the search that is cut off by gaps looks at. */
+        int searchedRows(int rank, int turns) {
+            return countSearched(shape, rank, NONE, turns);
+        }
+
+        /** Counts the rows that go on behind a last turn; the depth is the turns that are left. */
+        private static int countSearched(Shape shape, int rank, int last, int left) {
+            if (shape.layouts.gaps(rank) > left) {
                 return 0;
             }
             int rows = 1;
@@ -723,7 +736,7 @@ public final class TurnTops {
             }
             for (int many = 1; many <= shape.cakes; many++) {
                 if (many != last && shape.allows(rank, many)) {
-                    rows += searchedRows(layouts.behind(rank, many), many, left - 1);
+                    rows += countSearched(shape, shape.layouts.behind(rank, many), many, left - 1);
                 }
             }
             return rows;

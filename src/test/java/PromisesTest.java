@@ -1,21 +1,5 @@
 /** Each promise by answers that were worked out by hand from the document. */
-public final class PromisesTest {
-    private static final int PLAIN = 0;
-    private static final int BURNT = 1;
-    private static final int GLUED = 2;
-    private static final int WEAK = 3;
-
-    private static final int INVALID = TurnTops.INVALID_ARGUMENT;
-    private static final int IMPOSSIBLE = TurnTops.NOT_POSSIBLE;
-    private static final int LIMIT = TurnTops.LIMIT_REACHED;
-    private static final int NOT_FOUND = TurnTops.NOT_FOUND;
-
-    /** Numbers that are stacks, places, turns or things to ask for in no state. */
-    private static final int[] NEVER = {Integer.MIN_VALUE, -1000001, -2, -1, 51, 1000, Integer.MAX_VALUE};
-
-    private static String promise = "";
-    private static int wrong = 0;
-
+public final class PromisesTest extends Checks {
     public static void main(String[] args) {
         newObject();
         stack();
@@ -46,41 +30,11 @@ public final class PromisesTest {
         faultBehindTurns();
         play();
         errorsChangeNothing();
-        System.out.println(wrong == 0 ? "all promises hold" : wrong + " answers are not as due");
-        if (wrong != 0) {
-            System.exit(1);
-        }
-    }
-
-    private static void is(String what, int got, int due) {
-        if (got != due) {
-            wrong++;
-            System.out.println(promise + ": " + what + " answered " + got + ", due is " + due);
-        }
-    }
-
-    private static TurnTops kitchen(int kind, int cakes, int strength) {
-        TurnTops x = new TurnTops();
-        is("stack", x.stack(kind, cakes, strength), 0);
-        return x;
-    }
-
-    private static TurnTops laid(int kind, int cakes, int strength, int code, int sides) {
-        TurnTops x = kitchen(kind, cakes, strength);
-        x.lay(0, code, sides);
-        is("the code that was laid", x.stackOf(0, 3), code);
-        is("the sides that were laid", x.stackOf(0, 4), sides);
-        return x;
-    }
-
-    private static void write(TurnTops x, String text) {
-        for (int i = 0; i < text.length(); i++) {
-            x.type(text.charAt(i));
-        }
+        end();
     }
 
     private static void newObject() {
-        promise = "Promise 1";
+        about("Promise 1");
         TurnTops x = new TurnTops();
         for (int what = 0; what <= 12; what++) {
             is("count " + what, x.count(what), 0);
@@ -92,7 +46,7 @@ public final class PromisesTest {
     }
 
     private static void stack() {
-        promise = "Promise 2";
+        about("Promise 2");
         int[][] good = {{PLAIN, 1, 0}, {PLAIN, 6, 0}, {BURNT, 1, 0}, {BURNT, 5, 0}, {GLUED, 1, 0}, {GLUED, 6, 0},
             {WEAK, 1, 1}, {WEAK, 5, 21}, {WEAK, 1, 21}, {WEAK, 5, 1}};
         for (int[] g : good) {
@@ -124,7 +78,7 @@ public final class PromisesTest {
     }
 
     private static void lay() {
-        promise = "Promise 3";
+        about("Promise 3");
         TurnTops x = kitchen(PLAIN, 3, 0);
         is("312", x.lay(0, 312, 0), 2);
         is("321", x.lay(0, 321, 0), 1);
@@ -146,7 +100,7 @@ public final class PromisesTest {
     }
 
     private static void laySides() {
-        promise = "Promise 3";
+        about("Promise 3");
         for (int kind : new int[] {BURNT, WEAK}) {
             TurnTops x = kitchen(kind, 3, kind == WEAK ? 6 : 0);
             is("123 all burnt", x.lay(0, 123, 7), 3);
@@ -162,7 +116,7 @@ public final class PromisesTest {
     }
 
     private static void turn() {
-        promise = "Promise 4";
+        about("Promise 4");
         TurnTops x = laid(PLAIN, 4, 0, 3142, 0);
         is("3", x.turn(0, 3), 3);
         is("code", x.stackOf(0, 3), 4132);
@@ -184,7 +138,7 @@ public final class PromisesTest {
     }
 
     private static void turnGluedAndWeak() {
-        promise = "Promise 4";
+        about("Promise 4");
         TurnTops glued = laid(GLUED, 3, 0, 213, 0);
         is("between joined neighbors", glued.turn(0, 1), IMPOSSIBLE);
         is("joined with the plate", glued.turn(0, 3), IMPOSSIBLE);
@@ -201,7 +155,7 @@ public final class PromisesTest {
     }
 
     private static void doRow() {
-        promise = "Promise 5";
+        about("Promise 5");
         TurnTops x = laid(PLAIN, 3, 0, 132, 0);
         is("232", x.doRow(0, 232), 0);
         is("one change", x.count(11), 3);
@@ -227,7 +181,7 @@ public final class PromisesTest {
     }
 
     private static void stackOf() {
-        promise = "Promise 6";
+        about("Promise 6");
         TurnTops x = laid(WEAK, 3, 3, 213, 5);
         int[] due = {WEAK, 3, 3, 213, 5, 3, 0, 21, 6, 0};
         for (int what = 0; what <= 9; what++) {
@@ -256,7 +210,7 @@ public final class PromisesTest {
 
     /** The rank of each stack is its place among all that ranked tells, and these rise. */
     private static void stackOfAllRanks() {
-        promise = "Promises 6 and 15";
+        about("Promises 6 and 15");
         int[][] all = {{PLAIN, 4, 0, 24}, {GLUED, 4, 0, 24}, {BURNT, 3, 0, 48}, {WEAK, 3, 1, 48}};
         for (int[] a : all) {
             TurnTops x = kitchen(a[0], a[1], a[2]);
@@ -276,7 +230,7 @@ public final class PromisesTest {
     }
 
     private static void cakeAt() {
-        promise = "Promise 7";
+        about("Promise 7");
         TurnTops x = laid(BURNT, 3, 0, 312, 5);
         is("top", x.cakeAt(0, 0), -7);
         is("middle", x.cakeAt(0, 1), 1);
@@ -291,7 +245,7 @@ public final class PromisesTest {
     }
 
     private static void gapsBehind() {
-        promise = "Promise 8";
+        about("Promise 8");
         TurnTops x = laid(PLAIN, 3, 0, 312, 0);
         is("1", x.gapsBehind(0, 1), 2);
         is("2", x.gapsBehind(0, 2), 2);
@@ -310,7 +264,7 @@ public final class PromisesTest {
     }
 
     private static void fewest() {
-        promise = "Promise 9";
+        about("Promise 9");
         TurnTops x = laid(PLAIN, 3, 0, 132, 0);
         is("turns", x.fewest(0, 0), 3);
         is("232 is ahead of 323", x.fewest(0, 1), 232);
@@ -342,7 +296,7 @@ public final class PromisesTest {
 
     /** Of a stack that needs ten turns, the first of them makes one that needs nine. */
     private static void fewestWithNineTurns() {
-        promise = "Promise 9";
+        about("Promise 9");
         TurnTops x = laid(BURNT, 5, 0, 12345, 31);
         int nines = 0;
         for (int many = 1; many <= 5; many++) {
@@ -361,7 +315,7 @@ public final class PromisesTest {
     }
 
     private static void leastWork() {
-        promise = "Promise 10";
+        about("Promise 10");
         TurnTops x = laid(PLAIN, 3, 0, 132, 0);
         is("2 + 3 + 2", x.leastWork(0), 7);
         x.lay(0, 123, 0);
@@ -378,7 +332,7 @@ public final class PromisesTest {
     }
 
     private static void ways() {
-        promise = "Promise 11";
+        about("Promise 11");
         TurnTops x = laid(PLAIN, 3, 0, 312, 0);
         int[] due = {0, 0, 1, 3};
         for (int turns = 0; turns < due.length; turns++) {
@@ -405,7 +359,7 @@ public final class PromisesTest {
     }
 
     private static void lookedAt() {
-        promise = "Promise 12";
+        about("Promise 12");
         TurnTops x = laid(PLAIN, 3, 0, 312, 0);
         int[] due = {0, 0, 3, 9};
         for (int turns = 0; turns < due.length; turns++) {
@@ -433,7 +387,7 @@ public final class PromisesTest {
     }
 
     private static void simple() {
-        promise = "Promise 13";
+        about("Promise 13");
         simpleIs(kitchen(PLAIN, 4, 0), 0, 0, 1);
         simpleIs(laid(PLAIN, 3, 0, 312, 0), 2, 5, 1);
         simpleIs(laid(PLAIN, 3, 0, 132, 0), 3, 7, 1);
@@ -464,7 +418,7 @@ public final class PromisesTest {
     }
 
     private static void bestTurn() {
-        promise = "Promise 14";
+        about("Promise 14");
         is("3", laid(PLAIN, 3, 0, 312, 0).bestTurn(0), 3);
         is("the least one of several", laid(PLAIN, 3, 0, 132, 0).bestTurn(0), 1);
         is("of a sorted one", kitchen(PLAIN, 3, 0).bestTurn(0), 1);
@@ -481,7 +435,7 @@ public final class PromisesTest {
     }
 
     private static void ranked() {
-        promise = "Promise 15";
+        about("Promise 15");
         TurnTops x = laid(BURNT, 2, 0, 21, 3);
         is("code 0", x.ranked(0, 0, 0), 12);
         is("sides 0", x.ranked(0, 0, 1), 0);
@@ -509,7 +463,7 @@ public final class PromisesTest {
     }
 
     private static void ofDistance() {
-        promise = "Promise 16";
+        about("Promise 16");
         distancesAre(laid(PLAIN, 3, 0, 312, 0), 1, 2, 2, 1, 0);
         distancesAre(kitchen(PLAIN, 1, 0), 1, 0);
         distancesAre(kitchen(BURNT, 1, 0), 1, 1, 0);
@@ -536,7 +490,7 @@ public final class PromisesTest {
     }
 
     private static void count() {
-        promise = "Promise 17";
+        about("Promise 17");
         TurnTops x = laid(PLAIN, 3, 0, 312, 0);
         x.stack(BURNT, 2, 0);
         x.turn(1, 2);
@@ -554,7 +508,7 @@ public final class PromisesTest {
     }
 
     private static void undo() {
-        promise = "Promise 18";
+        about("Promise 18");
         TurnTops x = kitchen(PLAIN, 3, 0);
         for (int code : new int[] {132, 213, 231, 312, 321}) {
             x.lay(0, code, 0);
@@ -579,7 +533,7 @@ public final class PromisesTest {
     }
 
     private static void undoRestoresAllButTheText() {
-        promise = "Promise 18";
+        about("Promise 18");
         TurnTops x = laid(BURNT, 3, 0, 312, 1);
         x.turn(0, 2);
         write(x, "A32;");
@@ -597,7 +551,7 @@ public final class PromisesTest {
     }
 
     private static void type() {
-        promise = "Promise 19";
+        about("Promise 19");
         TurnTops x = new TurnTops();
         is("31", x.type(31), INVALID);
         is("127", x.type(127), INVALID);
@@ -616,7 +570,7 @@ public final class PromisesTest {
     }
 
     private static void clearText() {
-        promise = "Promise 20";
+        about("Promise 20");
         TurnTops x = kitchen(PLAIN, 2, 0);
         is("empty", x.clearText(), 0);
         write(x, "A2;");
@@ -630,7 +584,7 @@ public final class PromisesTest {
     }
 
     private static void fault() {
-        promise = "Promise 21";
+        about("Promise 21");
         TurnTops x = kitchen(PLAIN, 3, 0);
         faultIs(x, "", NOT_FOUND, NOT_FOUND);
         faultIs(x, "A123;", NOT_FOUND, NOT_FOUND);
@@ -674,7 +628,7 @@ public final class PromisesTest {
     }
 
     private static void faultBehindTurns() {
-        promise = "Promise 21";
+        about("Promise 21");
         TurnTops x = laid(WEAK, 3, 4, 312, 0);
         x.stack(GLUED, 3, 0);
         x.lay(1, 312, 0);
@@ -688,7 +642,7 @@ public final class PromisesTest {
     }
 
     private static void play() {
-        promise = "Promise 22";
+        about("Promise 22");
         TurnTops x = laid(PLAIN, 3, 0, 312, 0);
         x.stack(BURNT, 2, 0);
         write(x, "A3;B12;A2;");
@@ -718,7 +672,7 @@ public final class PromisesTest {
     }
 
     private static void errorsChangeNothing() {
-        promise = "Changes and errors";
+        about("Changes and errors");
         TurnTops x = laid(GLUED, 3, 0, 213, 0);
         x.turn(0, 3);
         x.turn(0, 4);
