@@ -1,3 +1,4 @@
+import java.util.function.Supplier;
 import java.util.function.ToIntFunction;
 
 /**
@@ -181,15 +182,27 @@ public final class ChangeBoundariesTest extends Checks {
         restores("play", x -> x.play());
     }
 
-    private static void restores(String name, ToIntFunction<TurnTops> change) {
+    private static TurnTops threeStates() {
         TurnTops x = kitchenWith(2);
         x.turn(0, 2);
         write(x, "A12;B3;");
+        return x;
+    }
+
+    private static TurnTops undone(TurnTops x, ToIntFunction<TurnTops> change) {
+        change.applyAsInt(x);
+        x.undo();
+        return x;
+    }
+
+    private static void restores(String name, ToIntFunction<TurnTops> change) {
+        TurnTops x = threeStates();
         int[] before = seen(x);
         isTrue(name, change.applyAsInt(x) >= 0);
         is("states behind " + name, x.count(11), 4);
         is("undo of " + name, x.undo(), 3);
         same("undo of " + name, seen(x), before);
+        sameBehindChanges(name + " and undo", () -> undone(threeStates(), change), () -> threeStates());
     }
 
     private static void historyKeepsNoText() {
@@ -360,7 +373,37 @@ public final class ChangeBoundariesTest extends Checks {
             TurnTops x = full();
             is(refused.name, refused.call.applyAsInt(x), refused.due);
             sameToTheEnd(refused.name, x, full());
+            sameBehindChanges(refused.name, () -> behind(full(), refused), () -> full());
         }
+    }
+
+    /** Any change that is made next makes the same of both kitchens: nothing is left of what was made before. */
+    private static void sameBehindChanges(String name, Supplier<TurnTops> kitchens, Supplier<TurnTops> twins) {
+        for (Asked change : nextChanges()) {
+            TurnTops x = kitchens.get();
+            TurnTops y = twins.get();
+            is(change.name, change.call.applyAsInt(x), change.call.applyAsInt(y));
+            same(change.name + " behind " + name, seen(x), seen(y));
+            is("undo", x.undo(), y.undo());
+            same("undo of " + change.name + " behind " + name, seen(x), seen(y));
+        }
+    }
+
+    private static TurnTops behind(TurnTops x, Asked call) {
+        call.call.applyAsInt(x);
+        return x;
+    }
+
+    /** Changes that are possible in the full kitchen, and in one of two burnt stacks of 3. */
+    private static Asked[] nextChanges() {
+        return new Asked[] {
+            new Asked("lay", 0, x -> x.lay(1, x.stackOf(1, 3), 3)),
+            new Asked("turn", 0, x -> x.turn(1, 1)),
+            new Asked("doRow", 0, x -> x.doRow(1, 12)),
+            new Asked("clearText and play", 0, x -> x.clearText() + x.play()),
+            new Asked("stack", 0, x -> x.stack(PLAIN, 2, 0)),
+            new Asked("undo and stack", 0, x -> x.undo() + x.undo() + x.stack(PLAIN, 2, 0)),
+        };
     }
 
     /** What is seen now, and behind each undo, and of the text, is the same of both. */
@@ -419,6 +462,7 @@ public final class ChangeBoundariesTest extends Checks {
             TurnTops x = full();
             isTrue(question.name, question.call.applyAsInt(x) >= 0);
             sameToTheEnd(question.name, x, full());
+            sameBehindChanges(question.name, () -> behind(full(), question), () -> full());
         }
     }
 

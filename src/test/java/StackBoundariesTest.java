@@ -22,8 +22,12 @@ public final class StackBoundariesTest extends Checks {
         end();
     }
 
+    private static boolean isSided(int kind) {
+        return kind == BURNT || kind == WEAK;
+    }
+
     private static int mostCakes(int kind) {
-        return kind == PLAIN || kind == GLUED ? 6 : 5;
+        return isSided(kind) ? 5 : 6;
     }
 
     /** The strength of a stack that bears all, 0 for the kinds that have none. */
@@ -39,11 +43,44 @@ public final class StackBoundariesTest extends Checks {
     // ---- the term "Stacks"
 
     private static void termsOfStacks() {
+        kindsAndCakes();
+        strengths();
         fiveStacks();
         placesFromTheTop();
         sidesOfPlainAndGlued();
         sortedSizes();
         sortedSides();
+    }
+
+    private static void kindsAndCakes() {
+        sentence("Stacks", "A stack has a kind .., n cakes of the sizes 1 to n", "all in one kitchen");
+        TurnTops x = new TurnTops();
+        for (int cakes = 1; cakes <= 6; cakes++) {
+            for (int kind : KINDS) {
+                if (cakes <= mostCakes(kind)) {
+                    is("stack", x.stack(kind, cakes, strong(kind)), 0);
+                    is("kind", x.stackOf(0, 0), kind);
+                    is("cakes", x.stackOf(0, 1), cakes);
+                    is("sizes", x.stackOf(0, 3), 123456 / (int) Math.pow(10, 6 - cakes));
+                    isTrue("sides", (x.lay(0, x.stackOf(0, 3), 1) != INVALID) == isSided(kind));
+                    x.undo();
+                    x.undo();
+                }
+            }
+        }
+    }
+
+    private static void strengths() {
+        sentence("Stacks", "and, if it is weak, a strength", "all in one kitchen");
+        TurnTops x = new TurnTops();
+        for (int cakes = 1; cakes <= 5; cakes++) {
+            for (int strength = 1; strength <= 21; strength++) {
+                is("stack", x.stack(WEAK, cakes, strength), 0);
+                is("strength", x.stackOf(0, 2), strength);
+                is("cakes", x.stackOf(0, 1), cakes);
+                x.undo();
+            }
+        }
     }
 
     private static void fiveStacks() {
@@ -295,9 +332,8 @@ public final class StackBoundariesTest extends Checks {
         sentence("Codes", "The rank of a stack is how many stacks of its kind with as many cakes come ahead of it");
         int[] stacks = {1, 2, 6, 24, 120, 720};
         for (int kind : KINDS) {
-            boolean sided = kind == BURNT || kind == WEAK;
             for (int cakes = 1; cakes <= mostCakes(kind); cakes++) {
-                int allSides = sided ? (1 << cakes) - 1 : 0;
+                int allSides = isSided(kind) ? (1 << cakes) - 1 : 0;
                 is("the first", kitchen(kind, cakes, strong(kind)).stackOf(0, 7), 0);
                 is("the last", laid(kind, cakes, strong(kind), reverse(cakes), allSides).stackOf(0, 7),
                     stacks[cakes - 1] * (allSides + 1) - 1);

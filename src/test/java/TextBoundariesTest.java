@@ -195,6 +195,7 @@ public final class TextBoundariesTest extends Checks {
         sentence("Texts", "followed by one or more digits, each a turn of that stack");
         TurnTops x = kitchen(BURNT, 3, 0);
         faultIs(x, "A;", 1, 1);
+        faultIs(x, "A1;A;", 4, 1);
         noFault(x, "A3;");
         noFault(x, "A" + "3".repeat(48) + ";");
         // the signs next to the digits
