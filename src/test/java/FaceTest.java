@@ -12,33 +12,26 @@ import java.util.Set;
 import java.util.TreeSet;
 
 /** The public face is that of the document and no more, and what 512 calls can keep stays in the room. */
-public final class FaceTest {
+public final class FaceTest extends Checks {
     private static final String[] METHODS = {"stack 3", "lay 3", "turn 2", "doRow 2", "stackOf 2", "cakeAt 2",
         "gapsBehind 2", "fewest 2", "leastWork 1", "ways 2", "lookedAt 2", "simple 2", "bestTurn 1", "ranked 3",
         "ofDistance 2", "count 1", "undo 0", "type 1", "clearText 0", "fault 1", "play 0"};
     private static final int MOST_OBJECTS = 600000;
     private static final long MOST_ELEMENTS = 7300000;
 
-    private static int wrong = 0;
-
     public static void main(String[] args) throws IllegalAccessException {
         constants();
         members();
         room();
-        System.out.println(wrong == 0 ? "the face is as due" : wrong + " faults of the face");
-        if (wrong != 0) {
-            System.exit(1);
-        }
+        end();
     }
 
     private static void must(boolean holds, String what) {
-        if (!holds) {
-            wrong++;
-            System.out.println("not so: " + what);
-        }
+        isTrue(what, holds);
     }
 
     private static void constants() throws IllegalAccessException {
+        about("The public face, its constants");
         String[] names = {"INVALID_ARGUMENT", "NOT_POSSIBLE", "LIMIT_REACHED", "NOT_FOUND"};
         Set<String> found = new TreeSet<>();
         for (Field f : TurnTops.class.getDeclaredFields()) {
@@ -53,6 +46,7 @@ public final class FaceTest {
     }
 
     private static void members() {
+        about("The public face, its constructor and methods");
         must(TurnTops.class.getModifiers() == (Modifier.PUBLIC | Modifier.FINAL), "the class is public and final");
         Constructor<?>[] constructors = TurnTops.class.getDeclaredConstructors();
         must(constructors.length == 1 && constructors[0].getParameterCount() == 0
@@ -72,6 +66,7 @@ public final class FaceTest {
 
     /** Nothing that a call makes is thrown away, so all that was made can still be reached. */
     private static void room() throws IllegalAccessException {
+        about("The room of one object");
         TurnTops x = new TurnTops();
         for (int cakes = 6; cakes >= 1; cakes--) {
             for (int kind = 0; kind <= 3; kind++) {
