@@ -240,11 +240,12 @@ public final class TurnTops {
     }
 
     public int undo() {
-        if (states < 1 || states > history.length) {
+        Kitchen before = stateAt(states - 1);
+        if (before == null) {
             return NOT_POSSIBLE;
         }
         states--;
-        now.copyFrom(history[states]);
+        now.copyFrom(before);
         return states;
     }
 
@@ -288,16 +289,29 @@ public final class TurnTops {
     /** Makes the trial the present state, and records the one before it. */
     private void keepTrial() {
         if (states >= history.length) {
-            for (int i = 1; i < history.length; i++) {
-                history[i - 1].copyFrom(history[i]);
-            }
-            states = history.length - 1;
+            dropOldestState();
         }
-        if (states >= 0 && states < history.length) {
-            history[states].copyFrom(now);
+        Kitchen before = stateAt(states);
+        if (before != null) {
+            before.copyFrom(now);
             states++;
         }
         now.copyFrom(trial);
+    }
+
+    /** The oldest state goes to the end, where its place is used again. */
+    private void dropOldestState() {
+        for (int i = 1; i < history.length; i++) {
+            Kitchen oldest = history[i - 1];
+            history[i - 1] = history[i];
+            history[i] = oldest;
+        }
+        states = history.length - 1;
+    }
+
+    /** The place for a state of the history, the oldest one first; null if there is none. */
+    private Kitchen stateAt(int index) {
+        return index >= 0 && index < history.length ? history[index] : null;
     }
 
     /** What stands at an index of a row, or 0 outside of it: no index can fail. */
